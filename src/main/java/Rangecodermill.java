@@ -20,6 +20,7 @@ public final class Rangecodermill {
     private static final int MOST_KEPT = 8;
     private static final int BLOCK_FEE = 2;
     private static final int SIGN_FEE = 5;
+    private static final int MOST_MORE_BITS = 2;
     private static final int WORD = 65536;
     private static final int BYTE = 256;
     /** A SIGN takes a MENU for each ORDER from BACK down to -1 at most. */
@@ -409,10 +410,12 @@ public final class Rangecodermill {
     public boolean isSound() {
         partIntoBlocks();
         for (int m = 0; m < MODELS; m++) {
-            if (!isSoundBy(modelOf(m))) {
-                return false;
-            }
-            if (typed.size() > 0 && blockSums.at(0) > mill.bitCount() + BLOCK_FEE) {
+            millText(modelOf(m), typed);
+            exact.follow(trail);
+            int more = exact.exactBits() - exact.leastBits();
+            boolean isTight = more >= 0 && more <= MOST_MORE_BITS;
+            boolean isWorthParting = typed.size() == 0 || blockSums.at(0) <= mill.bitCount() + BLOCK_FEE;
+            if (!isTight || !isWorthParting || !trail.isWhole || !isReadAgain(modelOf(m)) || !mill.isLowTrue(trail)) {
                 return false;
             }
         }
@@ -581,25 +584,14 @@ public final class Rangecodermill {
         return width;
     }
 
-    /** Leaves the mill as it is behind all of TYPED. */
-    private boolean isSoundBy(Model model) {
-        millText(model, typed);
-        if (!trail.isWhole || !mill.isLowTrue(trail)) {
-            return false;
-        }
+    /** Whether the BITS of TYPED, as the mill stands, are read as TYPED, also with "1" behind them. */
+    private boolean isReadAgain(Model model) {
         mill.writeBits(spare);
         mill.readInto(text, spare, model, typed.size());
-        if (typed.unlike(text) > 0) {
-            return false;
-        }
+        int unlike = typed.unlike(text);
         spare.add(1);
         mill.readInto(text, spare, model, typed.size());
-        if (typed.unlike(text) > 0) {
-            return false;
-        }
-        exact.follow(trail);
-        int more = exact.exactBits() - exact.leastBits();
-        return more >= 0 && more <= 2;
+        return unlike + typed.unlike(text) == 0;
     }
 
     private static long mixed(long d, long v) {
@@ -674,16 +666,16 @@ public final class Rangecodermill {
         }
 
         void fill(int size, int number) {
-            count = 0;
-            for (int n = 0; n < size && n < cells.length; n++) {
-                add(number);
+            count = Math.max(0, Math.min(size, cells.length));
+            for (int n = 0; n < count && n < cells.length; n++) {
+                cells[n] = number;
             }
         }
 
         void copy(Row other) {
-            count = 0;
-            for (int n = 0; n < other.count && n < cells.length; n++) {
-                add(other.at(n));
+            count = Math.min(other.count, cells.length);
+            for (int n = 0; n < count && n < cells.length; n++) {
+                cells[n] = other.at(n);
             }
         }
 
@@ -1133,8 +1125,10 @@ public final class Rangecodermill {
             wideLow.set(0);
             for (int n = 0; n < trail.size(); n++) {
                 int known = bytes.size();
-                wideLow.plus(unitOf(range, trail.wholes.at(n)) * trail.aheads.at(n));
-                grind(trail, n, n + 1);
+                int ahead = trail.aheads.at(n);
+                int whole = trail.wholes.at(n);
+                wideLow.plus(unitOf(range, whole) * ahead);
+                grindStep(ahead, trail.parts.at(n), whole);
                 for (int more = known; more < bytes.size(); more++) {
                     wideLow.times(BYTE);
                 }
