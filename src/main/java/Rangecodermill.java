@@ -681,8 +681,8 @@ public final class Rangecodermill {
 
         int sum() {
             int sum = 0;
-            for (int n = 0; n < count; n++) {
-                sum += at(n);
+            for (int n = 0; n < count && n < cells.length; n++) {
+                sum += cells[n];
             }
             return sum;
         }

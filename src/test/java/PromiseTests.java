@@ -216,6 +216,12 @@ public final class PromiseTests {
         same("say of six", x.say(0, 1, 2, 0, 1, 2), 9);
         same("say of six more", x.say(2, 1, 0, 2, 1, 0), 15);
         refused("say of two too many", x, STATE, () -> x.say(0, -1, -1, -1, -1, 1));
+        for (int place = 0; place < 5; place++) {
+            int at = place;
+            refused("say of two too many in places " + at + " and behind", x, STATE,
+                () -> x.say(at == 0 ? 0 : -1, at <= 1 ? 0 : -1, at == 1 || at == 2 ? 0 : -1, at == 2 || at == 3 ? 0 : -1,
+                    at == 3 || at == 4 ? 0 : -1, at == 4 ? 0 : -1));
+        }
         refused("say of a bad sign and too many", x, INDEX, () -> x.say(0, 0, 0, 0, 0, 3));
         refused("say(-2, ..)", x, INDEX, () -> x.say(-2, -1, -1, -1, -1, -1));
         refused("say(MAX, ..)", x, INDEX, () -> x.say(-1, MAX, -1, -1, -1, -1));
@@ -261,6 +267,11 @@ public final class PromiseTests {
         same("typed() behind take of none", x.typed(), "");
         same("take of two for none", x.take(0, 1, 2), 2);
         same("typed() behind take of two", x.typed(), "ab");
+        x.rub(2);
+        type(x, "bb");
+        same("take of two, the first unlike", x.take(0, 1, 2), 1);
+        same("take of sixteen", x.take(0, 1, 16), 14);
+        same("typed() behind take of sixteen", x.typed().substring(0, 6), "abcabc");
         refused("take(1, 0, 0)", x, INDEX, () -> x.take(1, 0, 0));
         refused("take(-1, 4, 0)", x, INDEX, () -> x.take(-1, 4, 0));
         refused("take(MAX, 0, 17)", x, INDEX, () -> x.take(MAX, 0, 17));
@@ -432,6 +443,10 @@ public final class PromiseTests {
         y.growth(3, 118);
         same("three bytes by one carry", y.ofStep(1, 14, 7), 3);
         same("they are read", readBack(y, 1), "adcbdbaadbcadcdc");
+        Rangecodermill z = mill(3, "cbaababcbcccacbc");
+        weights(z, 4, 16, 2);
+        same("LOW before", z.ofStep(0, 13, 4) + " " + z.ofStep(0, 13, 5), "57344 45056");
+        same("LOW grows by 4 * (45056 / 22) to 65536 itself", facts(z, 0, 14), "1 4 16 22 0 32768 4 1");
     }
 
     private static String readBack(Rangecodermill x, int model) {
