@@ -805,6 +805,50 @@ public final class EdgeTests {
         same("16 of four bits", mill(2, "").allCosts(0, 4), 64);
         same("2, 3, 3", mill(3, "").allCosts(0, 1), 8);
         same("16 of four bits by four", mill(4, "").allCosts(0, 2), 64);
+        allTexts(mill(3, "ccc", 1, 7, 30), 4);
+        allTexts(mill(4, "", 9, 1, 3, 30), 3);
+        allTexts(mill(6, "f", 1, 2, 3, 4, 5, 6), 2);
+        Rangecodermill x = mill(2, "", 20, 1);
+        x.growth(8, 20);
+        x.back(2, 1);
+        allTexts(x, 4);
+    }
+
+    /** Types each text of the lengths up to that one by itself, on another mill that is told the same. */
+    private static void allTexts(Rangecodermill x, int most) {
+        int signs = x.house(0);
+        Rangecodermill y = mill(signs, "");
+        for (int s = 0; s < signs; s++) {
+            y.weight(s, x.weightOf(s));
+        }
+        y.growth(x.house(2), x.house(3));
+        y.back(x.house(4), x.house(5));
+        for (int m = 0; m < 4; m++) {
+            for (int length = 0; length <= most; length++) {
+                int sum = 0;
+                int[] costs = {MAX, -1};
+                String[] texts = {"", ""};
+                for (int n = 0; n < Math.pow(signs, length); n++) {
+                    y.rub(16);
+                    for (int place = length - 1; place >= 0; place--) {
+                        y.say(n / (int) Math.pow(signs, place) % signs, -1, -1, -1, -1, -1);
+                    }
+                    int cost = y.cost(m);
+                    sum += cost;
+                    if (cost < costs[0]) {
+                        costs[0] = cost;
+                        texts[0] = y.typed();
+                    }
+                    if (cost > costs[1]) {
+                        costs[1] = cost;
+                        texts[1] = y.typed();
+                    }
+                }
+                same("all costs by " + m + " of " + length, x.allCosts(m, length), sum);
+                same("cheapest by " + m + " of " + length, x.extreme(m, length, false), texts[0]);
+                same("dearest by " + m + " of " + length, x.extreme(m, length, true), texts[1]);
+            }
+        }
     }
 
     // ---- blocks, what is learned
