@@ -454,6 +454,19 @@ public final class EdgeTests {
             // by 2 the first b and the first c take an escape each
             same("of the longest by " + m, x.steps(m), m == 2 ? 18 : 16);
         }
+        sentence("knows at each place only the SIGNS ahead of it");
+        for (int m = 0; m < 4; m++) {
+            Rangecodermill shorter = mill(3, "abcabcabcabcabca");
+            shorter.rub(9);
+            same("the first steps of a longer text by " + m, choices(x, m).startsWith(choices(shorter, m)), true);
+            shorter.rub(6);
+            same("the first step alone by " + m, choices(shorter, m), "0 0 " + (m == 3 ? "43 129" : "1 3"));
+        }
+        sentence("each with a PART of 1 or more; their sum is the WHOLE of the MENU. AHEAD of a CHOICE: the sum of the PARTS of all "
+            + "CHOICES ahead of it.");
+        wholes(mill(6, "f", 30, 30, 30, 30, 30, 1));
+        wholes(mill(3, "abacabca"));
+        wholes(mill(4, "dddddddc", 1, 1, 1, 30));
         sentence("NONE without such a STEP.");
         same("the last one", x.ofStep(2, 17, 0), 0);
         for (int what = 0; what <= 7; what++) {
@@ -477,6 +490,40 @@ public final class EdgeTests {
         same("choice 6 of six signs", mill(6, "a").next(2, 6), 1);
         Rangecodermill two = mill(2, "a");
         refused("choice 3 of two signs", two, ARGUMENT, () -> two.next(2, 3));
+    }
+
+    /** What next() tells is what ofStep() tells of the sign that is typed then. */
+    private static void wholes(Rangecodermill x) {
+        int signs = x.house(0);
+        for (int m = 0; m < 4; m++) {
+            int steps = x.steps(m);
+            int whole = 0;
+            for (int choice = 0; choice <= signs; choice++) {
+                whole += x.next(m, choice);
+            }
+            int ahead = 0;
+            for (int sign = 0; sign < signs; sign++) {
+                int part = x.next(m, sign);
+                x.say(sign, -1, -1, -1, -1, -1);
+                String due = part > 0 ? sign + " " + ahead + " " + part + " " + whole : signs + " " + ahead(x, m, signs) + " ";
+                same("sign " + sign + " by " + m, facts(x, m, steps, 0, 3).startsWith(due), true);
+                same("its whole by " + m, x.ofStep(m, steps, 3), whole);
+                x.rub(1);
+                ahead += part;
+            }
+        }
+    }
+
+    /** Of the ESCAPE of the MENU that came ahead of the last sign. */
+    private static int ahead(Rangecodermill x, int model, int signs) {
+        int last = x.house(1) - 1;
+        Rangecodermill y = mill(signs, x.typed().substring(0, last));
+        y.back(x.house(4), x.house(5));
+        int sum = 0;
+        for (int sign = 0; sign < signs; sign++) {
+            sum += y.next(model, sign);
+        }
+        return sum;
     }
 
     // ---- the mill
@@ -590,6 +637,17 @@ public final class EdgeTests {
         same("what carried to 65536 is read", w.read(w.keep(0), 0, 5), "ccdcd");
         Rangecodermill t = mill(4, "dabacd", 15, 27, 29, 3);
         same("what carried for bits alone is read", t.read(t.keep(0), 0, 6), "dabacd");
+        sentence("(LOW and CODE may have any size here; what counts is CODE - LOW.)");
+        // CODE - LOW is RANGE or more from the first sign on, and grows by fifteen bytes
+        Rangecodermill p = keeping("1111111111111111");
+        p.signs(6);
+        for (int sign = 0; sign < 5; sign++) {
+            p.weight(sign, 30);
+        }
+        for (int m = 0; m < 4; m++) {
+            // by 2 the escape is the last choice as long as it is there: f leaves out more each time
+            same("far beyond RANGE by " + m, p.read(0, m, 16), m == 2 ? "fedcbaffdfcfbfae" : "ffffffffffffffff");
+        }
         sentence("as long as RANGE is below 256, all of LOW and CODE get one BYTE more");
         Rangecodermill r = mill(2, "aa", 1, 15);
         same("RANGE 256", r.read(r.keep(0), 0, 2), "aa");
@@ -763,7 +821,10 @@ public final class EdgeTests {
         same("of one bit", mill(2, "a").cost(0), 1);
         same("of nine bits without a byte", mill(2, "bb", 28, 2).cost(0), 9);
         same("of two bytes", mill(4, "abcdabcd").cost(0), 16);
+        sentence("Throws `IllegalArgumentException` if model is not 0 to 3");
         for (int bad : new int[] {MIN, -1, 4, MAX}) {
+            refused("bound(" + bad + ", true)", x, ARGUMENT, () -> x.bound(bad, true));
+            refused("keep(" + bad + ")", x, ARGUMENT, () -> x.keep(bad));
             refused("cost(" + bad + ")", x, ARGUMENT, () -> x.cost(bad));
             refused("bits(" + bad + ")", x, ARGUMENT, () -> x.bits(bad));
             refused("steps(" + bad + ")", x, ARGUMENT, () -> x.steps(bad));
