@@ -1,4 +1,6 @@
+import java.io.DataInputStream;
 import java.io.IOException;
+import java.io.InputStream;
 import java.lang.reflect.Constructor;
 import java.lang.reflect.Executable;
 import java.lang.reflect.Field;
@@ -32,12 +34,24 @@ public final class FaceTests {
         "import ", "package ", "catch", "finally", "synchronized", "assert ", "->", "::", "System.", "instanceof", "static {",
         "try {", "@Override", ".hashCode", ".format(", "valueOf",
     };
+    /** Of what LANGUAGE.md's rules 4 and 6 allow, what this class needs. */
+    private static final Set<String> LIBRARY = Set.of(
+        "java/lang/Object.<init>()V", "java/lang/Math.min(II)I", "java/lang/Math.min(JJ)J", "java/lang/Math.max(II)I",
+        "java/lang/StringBuilder.<init>()V", "java/lang/StringBuilder.append(C)Ljava/lang/StringBuilder;",
+        "java/lang/StringBuilder.append(I)Ljava/lang/StringBuilder;", "java/lang/StringBuilder.toString()Ljava/lang/String;",
+        "java/lang/IllegalArgumentException.<init>(Ljava/lang/String;)V",
+        "java/lang/IndexOutOfBoundsException.<init>(Ljava/lang/String;)V",
+        "java/lang/IllegalStateException.<init>(Ljava/lang/String;)V");
     private static int wrong = 0;
 
     public static void main(String[] args) throws IOException {
         members();
         nested();
         source();
+        library(Rangecodermill.class);
+        for (Class<?> type : Rangecodermill.class.getDeclaredClasses()) {
+            library(type);
+        }
         room();
         System.out.println(wrong == 0 ? "the face is as it must be" : wrong + " things are wrong");
         if (wrong != 0) {
@@ -122,6 +136,51 @@ public final class FaceTests {
         while (method.find()) {
             holds(method.group().split("\n").length <= 60, "too long: " + method.group().split("\n")[0]);
         }
+    }
+
+    /** What the compiled class names of the library: no more than LANGUAGE.md lists. */
+    private static void library(Class<?> type) throws IOException {
+        try (InputStream file = type.getResourceAsStream(type.getName() + ".class")) {
+            if (file == null) {
+                holds(false, "no class file: " + type);
+                return;
+            }
+            for (String name : namedOutside(new DataInputStream(file))) {
+                holds(LIBRARY.contains(name), "not in the library that is allowed: " + name + " in " + type);
+            }
+        }
+    }
+
+    /** The methods and fields in a class file's table of constants that are none of the class's own. */
+    private static Set<String> namedOutside(DataInputStream file) throws IOException {
+        file.readInt();
+        file.readInt();
+        int many = file.readUnsignedShort();
+        String[] texts = new String[many];
+        int[][] pairs = new int[many][];
+        int[] tags = new int[many];
+        for (int n = 1; n < many; n++) {
+            tags[n] = file.readUnsignedByte();
+            switch (tags[n]) {
+                case 1: texts[n] = file.readUTF(); break;
+                case 3: case 4: file.readInt(); break;
+                case 5: case 6: file.readLong(); n++; break;
+                case 7: case 8: case 16: case 19: case 20: pairs[n] = new int[] {file.readUnsignedShort(), 0}; break;
+                case 15: file.readUnsignedByte(); file.readUnsignedShort(); break;
+                default: pairs[n] = new int[] {file.readUnsignedShort(), file.readUnsignedShort()};
+            }
+        }
+        Set<String> named = new TreeSet<>();
+        for (int n = 1; n < many; n++) {
+            boolean isDynamic = tags[n] == 17 || tags[n] == 18;
+            if (isDynamic || tags[n] >= 9 && tags[n] <= 11) {
+                String owner = isDynamic ? "invokedynamic" : texts[pairs[pairs[n][0]][0]];
+                if (!owner.startsWith("Rangecodermill")) {
+                    named.add(owner + "." + texts[pairs[pairs[n][1]][0]] + texts[pairs[pairs[n][1]][1]]);
+                }
+            }
+        }
+        return named;
     }
 
     /** What a run makes stays far from 7.3 million elements, counted as bytes, and 512 calls of it. */
